@@ -496,6 +496,8 @@ public final class RatchetGroup {
     private static final class Secrets {
         static final int ZERO = 0;
         private static final int FIRST_ROOM = 64;
+        // Above what 60 packages, and 60 epochs with 20 proposals each, can bring.
+        private static final int MAX_ROOM = 4096;
 
         private byte[] out = new byte[FIRST_ROOM];
         private int made;
@@ -511,8 +513,11 @@ public final class RatchetGroup {
         }
 
         int fresh() {
-            if (made >= out.length) {
+            if (made >= out.length && made < MAX_ROOM) {
                 out = Arrays.copyOf(out, 2 * out.length);
+            }
+            if (made >= out.length) {
+                return NONE;
             }
             made++;
             return made - 1;
@@ -530,11 +535,13 @@ public final class RatchetGroup {
         }
 
         void tie(int source, int second, int target) {
-            if (rules >= from.length) {
-                int room = 2 * from.length;
-                from = Arrays.copyOf(from, room);
-                also = Arrays.copyOf(also, room);
-                to = Arrays.copyOf(to, room);
+            if (rules >= to.length && rules < MAX_ROOM) {
+                from = Arrays.copyOf(from, 2 * from.length);
+                also = Arrays.copyOf(also, 2 * also.length);
+                to = Arrays.copyOf(to, 2 * to.length);
+            }
+            if (rules >= to.length) {
+                return;
             }
             from[rules] = source;
             also[rules] = second;
