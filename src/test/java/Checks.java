@@ -9,6 +9,7 @@ final class Checks {
     }
 
     private final String name;
+    private String sentence = "";
     private int asked = 0;
     private int wrong = 0;
 
@@ -16,11 +17,16 @@ final class Checks {
         this.name = name;
     }
 
+    /** The words of the document that the answers from here on are about. */
+    void sentence(String words) {
+        sentence = " [" + words + "]";
+    }
+
     void due(String call, long got, long want) {
         asked++;
         if (got != want) {
             wrong++;
-            System.out.println(name + ": " + call + " answered " + got + ", due is " + want);
+            System.out.println(name + sentence + ": " + call + " answered " + got + ", due is " + want);
         }
     }
 

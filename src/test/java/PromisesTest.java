@@ -37,27 +37,6 @@ public final class PromisesTest {
         CHECKS.end();
     }
 
-    /** A group of the members 0 .. size - 1 at leaves of the same numbers, all in epoch 1. */
-    private static RatchetGroup groupOf(int size, boolean path) {
-        RatchetGroup g = new RatchetGroup();
-        for (int i = 1; i < size; i++) {
-            g.add(0, g.offer(i));
-        }
-        g.commit(0, path);
-        for (int i = 1; i < size; i++) {
-            g.come(i);
-        }
-        return g;
-    }
-
-    private static void allCome(RatchetGroup g) {
-        for (int i = 0; i < 16; i++) {
-            if (g.member(i, 0) != NONE && g.member(i, 0) != g.epochs() - 1) {
-                g.come(i);
-            }
-        }
-    }
-
     private static void nodesAre(String when, RatchetGroup g, int epoch, String keys) {
         for (int i = 0; i < keys.length(); i++) {
             CHECKS.due(when + ": node(" + epoch + ", " + i + ", 0)", g.node(epoch, i, 0), keys.charAt(i) == 'k' ? 1 : 0);
@@ -186,7 +165,7 @@ public final class PromisesTest {
         g.commit(0, false);
         CHECKS.due("the committer's own do not go", g.epoch(1, 4), 0);
         CHECKS.due("and are forgotten", g.member(0, 2), 2);
-        RatchetGroup h = groupOf(2, true);
+        RatchetGroup h = Groups.of(2, true);
         h.commit(0, true);
         CHECKS.throwsState("update(1): not in the latest", () -> h.update(1));
     }
@@ -210,37 +189,37 @@ public final class PromisesTest {
         CHECKS.throwsIndex("commit 60 by nobody", () -> g.commit(16, true));
         CHECKS.due("what waits stays", g.waiting(), 1);
         CHECKS.due("epochs() 60, still", g.epochs(), 60);
-        RatchetGroup h = groupOf(2, true);
+        RatchetGroup h = Groups.of(2, true);
         h.commit(0, true);
         CHECKS.throwsState("commit(1): not in the latest", () -> h.commit(1, true));
     }
 
     private static void commitRemoves() {
-        RatchetGroup g = groupOf(8, true);
+        RatchetGroup g = Groups.of(8, true);
         nodesAre("a group of eight", g, 1, "kkkkk.kkk.k.k.k");
         g.remove(0, 5);
         g.remove(0, 5);
         g.remove(0, 1);
         g.remove(0, 9);
         g.commit(1, false);
-        CHECKS.due("the committer's leaf stays, 5 goes once", g.epoch(2, 3), bits(5));
-        CHECKS.due("a REMOVE brings a path", g.epoch(2, 2), bits(1, 3, 7));
+        CHECKS.due("the committer's leaf stays, 5 goes once", g.epoch(2, 3), Groups.bits(5));
+        CHECKS.due("a REMOVE brings a path", g.epoch(2, 2), Groups.bits(1, 3, 7));
         CHECKS.due("encrypted for 0, for 4 6, for 8 12 14", g.epoch(2, 6), 6);
         nodesAre("leaf 5 is removed", g, 2, "kkkkk.kkk...k.k");
         CHECKS.due("its member is out at once", g.member(5, 0), NONE);
         CHECKS.due("and holds nothing", g.member(5, 2), 0);
         CHECKS.due("others are where they were", g.member(6, 0), 1);
-        allCome(g);
+        Groups.allCome(g);
         g.remove(0, 7);
         g.remove(0, 4);
         g.commit(0, false);
         CHECKS.due("the right half has leaf 6", g.epoch(3, 0), 3);
-        allCome(g);
+        Groups.allCome(g);
         g.remove(0, 6);
         g.commit(0, false);
         CHECKS.due("the right half is blank", g.epoch(4, 0), 2);
         nodesAre("D is 2", g, 4, "kkkkk.k");
-        allCome(g);
+        Groups.allCome(g);
         g.remove(3, 2);
         g.remove(3, 1);
         g.remove(3, 0);
@@ -248,8 +227,8 @@ public final class PromisesTest {
         CHECKS.due("leaf 3 keeps D", g.epoch(5, 0), 2);
         nodesAre("leaf 3 alone", g, 5, "......k");
         CHECKS.due("nothing counts", g.epoch(5, 2), 0);
-        CHECKS.due("three removed", g.epoch(5, 3), bits(0, 1, 2));
-        RatchetGroup h = groupOf(8, true);
+        CHECKS.due("three removed", g.epoch(5, 3), Groups.bits(0, 1, 2));
+        RatchetGroup h = Groups.of(8, true);
         for (int i = 1; i < 8; i++) {
             h.remove(0, i);
         }
@@ -260,18 +239,18 @@ public final class PromisesTest {
     }
 
     private static void commitUpdates() {
-        RatchetGroup g = groupOf(4, true);
-        allCome(g);
+        RatchetGroup g = Groups.of(4, true);
+        Groups.allCome(g);
         g.commit(2, true);
-        allCome(g);
+        Groups.allCome(g);
         nodesAre("a full tree of four", g, 2, "kkkkkkk");
         g.update(0);
         g.update(3);
         g.update(0);
         CHECKS.due("secret, leaf, two nodes, two updates", g.member(0, 2), 6);
         g.commit(3, false);
-        CHECKS.due("the committer's does not go", g.epoch(3, 4), bits(0));
-        CHECKS.due("an UPDATE brings a path", g.epoch(3, 2), bits(3, 5));
+        CHECKS.due("the committer's does not go", g.epoch(3, 4), Groups.bits(0));
+        CHECKS.due("an UPDATE brings a path", g.epoch(3, 2), Groups.bits(3, 5));
         CHECKS.due("encrypted for 4, for 0 2", g.epoch(3, 6), 3);
         nodesAre("the path of leaf 0 is blank, but for the committer's", g, 3, "k.kkkkk");
         int[] born = {3, NONE, 1, 3, 2, 3, 3};
@@ -284,18 +263,18 @@ public final class PromisesTest {
         CHECKS.yes("is told of node 3", g.holds(0, 3));
         CHECKS.due("secret, leaf, node 3", g.member(0, 2), 3);
         CHECKS.due("is not stuck", g.member(0, 3), 0);
-        RatchetGroup both = groupOf(2, true);
+        RatchetGroup both = Groups.of(2, true);
         both.update(1);
         both.add(0, both.offer(2));
         both.commit(0, false);
-        CHECKS.due("an UPDATE brings a path, with an ADD, too", both.epoch(2, 2), bits(1, 3));
-        RatchetGroup h = groupOf(4, true);
+        CHECKS.due("an UPDATE brings a path, with an ADD, too", both.epoch(2, 2), Groups.bits(1, 3));
+        RatchetGroup h = Groups.of(4, true);
         h.update(2);
         h.remove(0, 2);
         h.update(1);
         h.commit(0, false);
-        CHECKS.due("none of a leaf that is removed", h.epoch(2, 4), bits(1));
-        CHECKS.due("its REMOVE", h.epoch(2, 3), bits(2));
+        CHECKS.due("none of a leaf that is removed", h.epoch(2, 4), Groups.bits(1));
+        CHECKS.due("its REMOVE", h.epoch(2, 3), Groups.bits(2));
     }
 
     private static void commitAdds() {
@@ -312,7 +291,7 @@ public final class PromisesTest {
         g.add(0, 1);
         g.add(0, 3);
         g.commit(0, false);
-        CHECKS.due("one ADD of a member", g.epoch(2, 5), bits(1, 2));
+        CHECKS.due("one ADD of a member", g.epoch(2, 5), Groups.bits(1, 2));
         CHECKS.due("D", g.epoch(2, 0), 2);
         CHECKS.due("ADDs alone bring no path", g.node(2, 0, 2), 1);
         g.come(1);
@@ -324,7 +303,7 @@ public final class PromisesTest {
         CHECKS.due("a used package does not go again", g.epoch(4, 5), 0);
         g.add(0, 1);
         g.commit(0, true);
-        CHECKS.due("the lowest blank leaf", g.epoch(5, 5), bits(1));
+        CHECKS.due("the lowest blank leaf", g.epoch(5, 5), Groups.bits(1));
         CHECKS.due("joins by the other package", g.come(1), 5);
         CHECKS.due("at leaf", g.member(1, 1), 1);
         addOfOneThatIsBehind();
@@ -332,7 +311,7 @@ public final class PromisesTest {
     }
 
     private static void addOfOneThatIsBehind() {
-        RatchetGroup g = groupOf(3, true);
+        RatchetGroup g = Groups.of(3, true);
         g.commit(0, true);
         g.remove(0, 1);
         g.commit(0, true);
@@ -346,19 +325,19 @@ public final class PromisesTest {
         CHECKS.due("both keys of its package", g.member(1, 2), 2);
         g.add(0, offered);
         g.commit(0, true);
-        CHECKS.due("now it goes", g.epoch(5, 5), bits(1));
+        CHECKS.due("now it goes", g.epoch(5, 5), Groups.bits(1));
         CHECKS.due("come(1), added", g.come(1), 5);
     }
 
     private static void addAndRemoveAtOnce() {
-        RatchetGroup g = groupOf(4, true);
+        RatchetGroup g = Groups.of(4, true);
         g.add(2, g.offer(1));
         g.add(2, g.offer(9));
         g.remove(2, 1);
         g.remove(2, 0);
         g.commit(2, false);
-        CHECKS.due("removed", g.epoch(2, 3), bits(0, 1));
-        CHECKS.due("added", g.epoch(2, 5), bits(0, 1));
+        CHECKS.due("removed", g.epoch(2, 3), Groups.bits(0, 1));
+        CHECKS.due("added", g.epoch(2, 5), Groups.bits(0, 1));
         CHECKS.due("not in the epoch before it comes", g.member(1, 0), NONE);
         CHECKS.due("come(1)", g.come(1), 2);
         CHECKS.due("the leaf that 0 had", g.member(1, 1), 0);
@@ -366,66 +345,66 @@ public final class PromisesTest {
         CHECKS.due("the leaf that 1 had", g.member(9, 1), 1);
         CHECKS.throwsState("come(0)", () -> g.come(0));
         CHECKS.due("encrypted for 6, and twice for each ADD", g.epoch(2, 6), 5);
-        RatchetGroup h = groupOf(2, true);
+        RatchetGroup h = Groups.of(2, true);
         h.commit(0, true);
         h.add(0, h.offer(1));
         h.remove(0, 1);
         h.commit(0, true);
         CHECKS.due("no ADD of one that is behind, though its REMOVE goes", h.epoch(3, 5), 0);
-        CHECKS.due("its REMOVE", h.epoch(3, 3), bits(1));
-        RatchetGroup again = groupOf(5, true);
+        CHECKS.due("its REMOVE", h.epoch(3, 3), Groups.bits(1));
+        RatchetGroup again = Groups.of(5, true);
         again.remove(0, 4);
         again.add(0, again.offer(7));
         again.commit(0, false);
         CHECKS.due("D falls and grows in one commit", again.epoch(2, 0), 3);
-        CHECKS.due("leaf 4 is another's", again.epoch(2, 5), bits(4));
+        CHECKS.due("leaf 4 is another's", again.epoch(2, 5), Groups.bits(4));
         CHECKS.due("the new top has a new key", again.node(2, 7, 2), 2);
     }
 
     private static void commitUnmerged() {
-        RatchetGroup g = groupOf(5, true);
+        RatchetGroup g = Groups.of(5, true);
         g.remove(0, 3);
         g.commit(0, false);
-        allCome(g);
+        Groups.allCome(g);
         g.add(0, g.offer(5));
         g.commit(0, false);
-        CHECKS.due("added at leaf 3", g.epoch(3, 5), bits(3));
+        CHECKS.due("added at leaf 3", g.epoch(3, 5), Groups.bits(3));
         CHECKS.due("no path", g.epoch(3, 2), 0);
         CHECKS.due("j alone is encrypted", g.epoch(3, 6), 1);
-        CHECKS.due("unmerged in 3", g.node(3, 3, 1), bits(3));
-        CHECKS.due("unmerged in 7", g.node(3, 7, 1), bits(3));
+        CHECKS.due("unmerged in 3", g.node(3, 3, 1), Groups.bits(3));
+        CHECKS.due("unmerged in 7", g.node(3, 7, 1), Groups.bits(3));
         CHECKS.due("not in a blank node", g.node(3, 5, 1), 0);
         CHECKS.due("not in the epoch before", g.node(2, 3, 1), 0);
         CHECKS.due("not in 1, which is not above it", g.node(3, 1, 1), 0);
         CHECKS.due("resolution of 3", g.node(3, 3, 3), 2);
         CHECKS.due("resolution of 5", g.node(3, 5, 3), 2);
         CHECKS.due("it keeps its key", g.node(3, 3, 2), 2);
-        allCome(g);
+        Groups.allCome(g);
         g.come(5);
         CHECKS.due("secret and leaf", g.member(5, 2), 2);
         CHECKS.no("not told of 3", g.holds(5, 3));
         CHECKS.yes("has the secret", g.has(5));
         g.commit(4, true);
-        CHECKS.due("7 counts alone", g.epoch(4, 2), bits(7));
+        CHECKS.due("7 counts alone", g.epoch(4, 2), Groups.bits(7));
         CHECKS.due("encrypted for 3 and its unmerged leaf", g.epoch(4, 6), 2);
         CHECKS.due("nothing unmerged in 7", g.node(4, 7, 1), 0);
-        CHECKS.due("unmerged in 3, still", g.node(4, 3, 1), bits(3));
+        CHECKS.due("unmerged in 3, still", g.node(4, 3, 1), Groups.bits(3));
         g.come(5);
         CHECKS.yes("told of 7", g.holds(5, 7));
         CHECKS.no("not of 3", g.holds(5, 3));
         g.update(5);
-        allCome(g);
+        Groups.allCome(g);
         g.commit(4, true);
         CHECKS.due("the UPDATE's path is blank", g.node(5, 3, 0), 0);
         CHECKS.due("encrypted for 1 4 6", g.epoch(5, 6), 3);
     }
 
     private static void commitPath() {
-        RatchetGroup g = groupOf(3, true);
-        CHECKS.due("asked for", g.epoch(1, 2), bits(1, 3));
+        RatchetGroup g = Groups.of(3, true);
+        CHECKS.due("asked for", g.epoch(1, 2), Groups.bits(1, 3));
         CHECKS.due("none but the added", g.epoch(1, 6), 4);
         g.commit(2, false);
-        CHECKS.due("of leaf 2, beside which nothing is", g.epoch(2, 2), bits(3));
+        CHECKS.due("of leaf 2, beside which nothing is", g.epoch(2, 2), Groups.bits(3));
         CHECKS.due("the one that does not count is blank", g.node(2, 5, 0), 0);
         CHECKS.due("encrypted for node 1", g.epoch(2, 6), 1);
         CHECKS.due("secret, leaf, node 3", g.member(2, 2), 3);
@@ -436,13 +415,13 @@ public final class PromisesTest {
         CHECKS.due("none counts", g.epoch(4, 2), 0);
         CHECKS.due("nothing is encrypted", g.epoch(4, 6), 0);
         nodesAre("a leaf alone in its tree", g, 4, "....k..");
-        RatchetGroup h = groupOf(4, false);
+        RatchetGroup h = Groups.of(4, false);
         CHECKS.due("no path", h.epoch(1, 2), 0);
         CHECKS.due("no new leaf key", h.node(1, 0, 2), 0);
         nodesAre("no path", h, 1, "k.k.k.k");
         h.add(3, h.offer(4));
         h.commit(3, true);
-        CHECKS.due("of leaf 3", h.epoch(2, 2), bits(5, 3, 7));
+        CHECKS.due("of leaf 3", h.epoch(2, 2), Groups.bits(5, 3, 7));
         CHECKS.due("encrypted for 4, for 0 2, and twice for the ADD", h.epoch(2, 6), 5);
         CHECKS.due("committer's leaf", h.epoch(2, 1), 3);
         h.come(4);
@@ -453,7 +432,7 @@ public final class PromisesTest {
     }
 
     private static void committerDropsBlankNodes() {
-        RatchetGroup g = groupOf(4, true);
+        RatchetGroup g = Groups.of(4, true);
         g.commit(3, true);
         CHECKS.due("secret, leaf, 5, 3", g.member(3, 2), 4);
         g.remove(3, 2);
@@ -467,7 +446,7 @@ public final class PromisesTest {
     }
 
     private static void committerWithoutPathKeepsKeys() {
-        RatchetGroup g = groupOf(4, true);
+        RatchetGroup g = Groups.of(4, true);
         g.update(1);
         g.add(1, g.offer(4));
         g.commit(0, true);
@@ -485,7 +464,7 @@ public final class PromisesTest {
     }
 
     private static void commitFullTree() {
-        RatchetGroup g = groupOf(16, false);
+        RatchetGroup g = Groups.of(16, false);
         CHECKS.due("D", g.epoch(1, 0), 4);
         CHECKS.due("fifteen added", g.epoch(1, 5), 0xFFFE);
         CHECKS.due("fifteen sent", g.epoch(1, 6), 15);
@@ -494,10 +473,10 @@ public final class PromisesTest {
         CHECKS.due("resolution of the top", g.node(1, 15, 3), 16);
         g.add(0, g.offer(3));
         CHECKS.due("commit(15)", g.commit(15, false), 2);
-        CHECKS.due("counting", g.epoch(2, 2), bits(29, 27, 23, 15));
+        CHECKS.due("counting", g.epoch(2, 2), Groups.bits(29, 27, 23, 15));
         CHECKS.due("encrypted for all others", g.epoch(2, 6), 15);
         CHECKS.due("secret, leaf, four nodes", g.member(15, 2), 6);
-        allCome(g);
+        Groups.allCome(g);
         for (int i = 0; i < 16; i++) {
             CHECKS.yes("all are told of the top", g.holds(i, 15));
             CHECKS.due("node 23 is the right half's", g.holds(i, 23) ? 1 : 0, i >= 8 ? 1 : 0);
@@ -561,8 +540,8 @@ public final class PromisesTest {
         g.remove(0, 1);
         g.add(0, late);
         g.commit(0, true);
-        CHECKS.due("removed and added before it came", g.epoch(2, 3), bits(1));
-        CHECKS.due("removed and added before it came", g.epoch(2, 5), bits(1));
+        CHECKS.due("removed and added before it came", g.epoch(2, 3), Groups.bits(1));
+        CHECKS.due("removed and added before it came", g.epoch(2, 5), Groups.bits(1));
         CHECKS.due("both packages", g.member(1, 2), 4);
         CHECKS.due("joins the earliest", g.come(1), 1);
         CHECKS.due("secret, leaf, node 1, the other package", g.member(1, 2), 5);
@@ -574,7 +553,7 @@ public final class PromisesTest {
     }
 
     private static void comeDropsKeys() {
-        RatchetGroup g = groupOf(5, true);
+        RatchetGroup g = Groups.of(5, true);
         CHECKS.due("secret, leaf, 1, 3, 7", g.member(0, 2), 5);
         CHECKS.due("secret, leaf, 3, 7", g.member(3, 2), 4);
         g.remove(3, 4);
@@ -622,7 +601,7 @@ public final class PromisesTest {
 
     // --- 9
     private static void member() {
-        RatchetGroup g = groupOf(3, true);
+        RatchetGroup g = Groups.of(3, true);
         g.commit(1, true);
         for (int i = 0; i < 3; i++) {
             CHECKS.due("epoch of " + i, g.member(i, 0), i == 1 ? 2 : 1);
@@ -641,7 +620,7 @@ public final class PromisesTest {
 
     // --- 10
     private static void holds() {
-        RatchetGroup g = groupOf(4, true);
+        RatchetGroup g = Groups.of(4, true);
         boolean[][] due = {
             {true, true, false, true, false, false, false},
             {false, true, true, true, false, false, false},
@@ -666,7 +645,7 @@ public final class PromisesTest {
 
     // --- 11
     private static void has() {
-        RatchetGroup g = groupOf(3, true);
+        RatchetGroup g = Groups.of(3, true);
         CHECKS.yes("has(2)", g.has(2));
         CHECKS.no("has(3)", g.has(3));
         g.add(0, g.offer(3));
@@ -687,7 +666,7 @@ public final class PromisesTest {
 
     // --- 12
     private static void node() {
-        RatchetGroup g = groupOf(3, true);
+        RatchetGroup g = Groups.of(3, true);
         long[][] due = {
             {1, 1, 1, 1, 1, 0, 0},
             {0, 0, 0, 0, 0, 0, 0},
@@ -714,12 +693,12 @@ public final class PromisesTest {
 
     // --- 13
     private static void epoch() {
-        RatchetGroup g = groupOf(4, true);
+        RatchetGroup g = Groups.of(4, true);
         g.update(1);
         g.remove(1, 3);
         g.add(1, g.offer(6));
         g.commit(2, false);
-        long[] due = {2, 2, bits(5, 3), bits(3), bits(1), bits(3), 4};
+        long[] due = {2, 2, Groups.bits(5, 3), Groups.bits(3), Groups.bits(1), Groups.bits(3), 4};
         for (int what = 0; what < due.length; what++) {
             CHECKS.due("epoch(2, " + what + ")", g.epoch(2, what), due[what]);
         }
@@ -735,7 +714,7 @@ public final class PromisesTest {
 
     // --- 14, 15
     private static void epochsAndWaiting() {
-        RatchetGroup g = groupOf(2, true);
+        RatchetGroup g = Groups.of(2, true);
         CHECKS.due("epochs()", g.epochs(), 2);
         g.update(1);
         g.remove(0, 1);
@@ -766,13 +745,13 @@ public final class PromisesTest {
         h.add(0, h.offer(1));
         h.commit(0, true);
         CHECKS.no("another package", h.isKnown(1));
-        RatchetGroup joined = groupOf(2, false);
+        RatchetGroup joined = Groups.of(2, false);
         CHECKS.due("the first key is forgotten", joined.compromise(1), 2);
         CHECKS.yes("it holds the secret", joined.isKnown(1));
     }
 
     private static void intruderByLeafKey() {
-        RatchetGroup g = groupOf(3, true);
+        RatchetGroup g = Groups.of(3, true);
         CHECKS.due("secret, leaf, node 3", g.compromise(2), 3);
         CHECKS.yes("isKnown(1)", g.isKnown(1));
         CHECKS.no("isKnown(0)", g.isKnown(0));
@@ -785,18 +764,18 @@ public final class PromisesTest {
         CHECKS.yes("isOpen(2, 3)", g.isOpen(2, 3));
         CHECKS.no("isOpen(2, 1)", g.isOpen(2, 1));
         CHECKS.no("isOpen(2, 0)", g.isOpen(2, 0));
-        RatchetGroup below = groupOf(3, false);
+        RatchetGroup below = Groups.of(3, false);
         below.compromise(1);
         below.commit(0, true);
         CHECKS.yes("the lowest path secret is encrypted for leaf 1", below.isOpen(2, 1));
         CHECKS.yes("the others are NEXT of it", below.isOpen(2, 3));
-        allCome(g);
+        Groups.allCome(g);
         g.commit(2, true);
         CHECKS.no("2 has made its keys new", g.isKnown(3));
         CHECKS.no("isOpen(3, 4)", g.isOpen(3, 4));
         CHECKS.no("isOpen(3, 3)", g.isOpen(3, 3));
         CHECKS.due("known()", g.known(), 2);
-        allCome(g);
+        Groups.allCome(g);
         g.compromise(0);
         CHECKS.yes("isKnown(3)", g.isKnown(3));
         CHECKS.yes("isOpen(3, 1)", g.isOpen(3, 1));
@@ -831,7 +810,7 @@ public final class PromisesTest {
         alone.commit(0, false);
         CHECKS.no("c is FRESH", alone.isKnown(1));
         CHECKS.no("and so is the leaf's key", alone.isOpen(1, 0));
-        RatchetGroup behind = groupOf(2, true);
+        RatchetGroup behind = Groups.of(2, true);
         behind.commit(0, true);
         behind.commit(0, true);
         CHECKS.due("told afterwards", behind.compromise(1), 3);
@@ -840,13 +819,13 @@ public final class PromisesTest {
     }
 
     private static void intruderByUpdate() {
-        RatchetGroup g = groupOf(3, true);
+        RatchetGroup g = Groups.of(3, true);
         g.compromise(2);
         g.update(2);
         g.commit(0, false);
         CHECKS.no("the new key was not told", g.isKnown(2));
         CHECKS.no("isOpen(2, 4)", g.isOpen(2, 4));
-        RatchetGroup h = groupOf(3, true);
+        RatchetGroup h = Groups.of(3, true);
         h.update(2);
         CHECKS.due("secret, leaf, node 3, update", h.compromise(2), 4);
         h.commit(0, false);
@@ -856,7 +835,7 @@ public final class PromisesTest {
     }
 
     private static void intruderAndRemoval() {
-        RatchetGroup g = groupOf(4, true);
+        RatchetGroup g = Groups.of(4, true);
         g.compromise(3);
         g.remove(0, 3);
         g.commit(0, false);
@@ -864,7 +843,7 @@ public final class PromisesTest {
         CHECKS.no("isOpen(2, 3)", g.isOpen(2, 3));
         CHECKS.due("a removed member holds nothing", g.compromise(3), 0);
         CHECKS.due("known()", g.known(), 1);
-        RatchetGroup late = groupOf(4, true);
+        RatchetGroup late = Groups.of(4, true);
         late.commit(1, true);
         late.remove(1, 3);
         late.commit(1, false);
@@ -877,9 +856,9 @@ public final class PromisesTest {
     /** Whatever the arguments, nothing but the two exceptions comes out, in states from first to last. */
     private static void strangeArgumentsEverywhere() {
         int[] odd = {Integer.MIN_VALUE, -1, 0, 1, 15, 16, 30, 31, Integer.MAX_VALUE};
-        RatchetGroup[] states = {new RatchetGroup(), groupOf(2, false), groupOf(16, true)};
-        for (RatchetGroup g : states) {
+        for (int size : new int[] {1, 2, 16}) {
             for (int a : odd) {
+                RatchetGroup g = Groups.of(size, size > 2);
                 for (int b : odd) {
                     fine(Checks.answer(() -> g.add(a, b)));
                     fine(Checks.answer(() -> g.remove(a, b)));
@@ -900,13 +879,5 @@ public final class PromisesTest {
 
     private static void fine(long answer) {
         CHECKS.due("a strange call's exception", answer == Checks.OTHER ? 1 : 0, 0);
-    }
-
-    private static int bits(int... numbers) {
-        int all = 0;
-        for (int i : numbers) {
-            all |= 1 << i;
-        }
-        return all;
     }
 }
